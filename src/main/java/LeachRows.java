@@ -241,7 +241,6 @@ public final class LeachRows {
         sums[RAINED] += rain;
         sums[KEPT_OFF] += keptOff;
         water[0] += rain - keptOff + sums[TO_GO_BACK];
-        sums[TO_GO_BACK] = 0;
     }
 
     /** Lets each layer pass into the next one; answers what went out of the last. */
@@ -287,9 +286,10 @@ public final class LeachRows {
     /** Parts what was cleaned into what is to go back and outflow; answers the outflow. */
     private long partAtTheEnd(long cleaned) {
         long goesBack = partsOf(returnParts, cleaned);
+        long outflow = cleaned - goesBack;
         sums[TO_GO_BACK] = goesBack;
-        sums[OUTFLOW] += cleaned - goesBack;
-        return cleaned - goesBack;
+        sums[OUTFLOW] += outflow;
+        return outflow;
     }
 
     private int dayThatPasses(int k) {

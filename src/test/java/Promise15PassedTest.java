@@ -8,6 +8,7 @@ public final class Promise15PassedTest {
         wrongInputs();
         limitsAsTheyAre();
         withoutOutflow();
+        whatGoesBackIsNoOutflow();
         DUE.end();
     }
 
@@ -92,5 +93,19 @@ public final class Promise15PassedTest {
         x.limit(0, 0);
         days("nothing is not more than 0", x, 0);
         days("nothing is not more than 0", x, 1);
+    }
+
+    private static void whatGoesBackIsNoOutflow() {
+        LeachRows x = flows();
+        x.back(400);
+        x.run(1);
+        x.back(1000);
+        x.run(1);
+        x.limit(2, 2);
+        days("3 of 5 flowed out", x, 0, 0);
+        days("3 of 5, then nothing", x, 1, 0);
+        x.limit(3, 3);
+        days("no more than 3 flowed out", x, 0);
+        days("no more than 3 flowed out", x, 1);
     }
 }
