@@ -26,8 +26,8 @@ final class Call {
         return new Call(random.nextInt(NAMES.length), wildNumber(random), wildNumber(random), wildNumber(random));
     }
 
-    /** Arguments that are mostly not refused. */
-    static Call tame(Random random) {
+    /** Arguments that are mostly not refused; days of samples rise with how many calls there were. */
+    static Call tame(Random random, int calls) {
         int kind = random.nextInt(NAMES.length);
         return switch (NAMES[kind]) {
             case "layer" -> new Call(kind, random.nextInt(6), random.nextInt(3000), random.nextInt(1001));
@@ -38,10 +38,46 @@ final class Call {
             case "storm" -> new Call(kind, random.nextLong(), 1 + random.nextInt(100), 0);
             case "run" -> new Call(kind, 1 + random.nextInt(12), 0, 0);
             case "limit" -> new Call(kind, random.nextInt(900) - 1, random.nextInt(900) - 1, 0);
-            case "sample" -> new Call(kind, random.nextInt(4), random.nextInt(100001), random.nextInt(21) - 10);
+            case "sample" ->
+                new Call(kind, random.nextInt(4), 190 * calls + random.nextInt(300), random.nextInt(41) - 20);
             case "passed" -> new Call(kind, random.nextInt(2), random.nextInt(50), 0);
             default -> new Call(kind, random.nextInt(6), random.nextInt(2), 0);
         };
+    }
+
+    /** Each argument at an edge that the document names for it, or beside it; most are not refused. */
+    static Call edgy(Random random, int layers) {
+        int kind = random.nextInt(NAMES.length);
+        return switch (NAMES[kind]) {
+            case "layer" ->
+                new Call(kind, edge(random, 0, layers - 1), edge(random, 0, 1000000), edge(random, 0, 1000));
+            case "cover", "drain", "back" -> new Call(kind, edge(random, 0, 1000), 0, 0);
+            case "tank" -> new Call(kind, edge(random, 0, random.nextBoolean() ? 1000000000 : 2000), 0, 0);
+            case "stage" -> new Call(kind, edge(random, 0, 1000000), edge(random, 0, 1000), 0);
+            case "rain" -> new Call(kind, edge(random, 0, 399), edge(random, 0, 1000000), 0);
+            case "storm" -> new Call(kind, random.nextLong(), edge(random, 1, 100), 0);
+            case "run" -> new Call(kind, edge(random, 1, random.nextInt(4) == 0 ? 100 : 3), 0, 0);
+            case "limit" -> new Call(kind, edge(random, -1, 1000000000), edge(random, -1, 1000), 0);
+            case "sample" ->
+                new Call(kind, edge(random, 0, 3), edge(random, 0, 100000), edge(random, -1000000, 1000000));
+            case "held" -> new Call(kind, edge(random, 0, layers - 1), 0, 0);
+            case "out" -> new Call(kind, edge(random, 0, 8), 0, 0);
+            case "passed" -> new Call(kind, edge(random, 0, 1), edge(random, 0, 20), 0);
+            default -> new Call(kind, edge(random, 0, 3), edge(random, 0, 1), 0);
+        };
+    }
+
+    private static long edge(Random random, long least, long most) {
+        switch (random.nextInt(16)) {
+            case 0: return least - 1;
+            case 1: return most + 1;
+            case 2: case 3: case 4: return least;
+            case 5: case 6: case 7: return most;
+            case 8: return Math.min(most, least + 1);
+            case 9: return Math.max(least, most - 1);
+            case 10: case 11: return least + (most - least) / (1 + random.nextInt(1000));
+            default: return least + (long) (random.nextDouble() * (most - least + 1));
+        }
     }
 
     private static long wildNumber(Random random) {
@@ -86,6 +122,14 @@ final class Call {
             case "trend" -> x.trend(i);
             default -> x.odds(i, j);
         };
+    }
+
+    /** The answer of the model; numbers are cut as the face of the class takes them. */
+    long on(Model x) {
+        boolean takesLongs = NAMES[kind].equals("tank") || NAMES[kind].equals("limit");
+        long first = takesLongs || NAMES[kind].equals("storm") ? a : (int) a;
+        long second = NAMES[kind].equals("limit") ? b : (int) b;
+        return x.answer(NAMES[kind], first, second, (int) c);
     }
 
     private static long is(boolean answer) {

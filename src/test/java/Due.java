@@ -1,6 +1,11 @@
+import java.util.function.Predicate;
+import java.util.function.Supplier;
+import java.util.function.ToIntFunction;
+
 /** Compares answers with those that are due, and ends a test. */
 final class Due {
     private final String test;
+    private String about = "";
     private int compared;
     private int wrong;
 
@@ -8,11 +13,20 @@ final class Due {
         this.test = test;
     }
 
+    /** The test of one sentence of the document; what is not as due is told with its words. */
+    void sentence(String words, Runnable its) {
+        int before = compared;
+        about = " '" + words + "'";
+        its.run();
+        same("how often the sentence was looked at, 0 times", compared == before, false);
+        about = "";
+    }
+
     void same(String call, long got, long want) {
         compared++;
         if (got != want) {
             wrong++;
-            System.out.println(test + ": " + call + " answered " + got + ", due is " + want);
+            System.out.println(test + about + ": " + call + " answered " + got + ", due is " + want);
         }
     }
 
@@ -26,6 +40,33 @@ final class Due {
 
     void no(String call, boolean got) {
         same(call, got, false);
+    }
+
+    /** A call that is refused by false: then the fill is as one that never got it. */
+    void saysNo(String call, Supplier<LeachRows> made, Predicate<LeachRows> does) {
+        LeachRows x = made.get();
+        no(call, does.test(x));
+        alike("behind " + call, x, made.get());
+    }
+
+    /** A call that is refused by NONE: then the fill is as one that never got it. */
+    void saysNone(String call, Supplier<LeachRows> made, ToIntFunction<LeachRows> does) {
+        LeachRows x = made.get();
+        same(call, does.applyAsInt(x), LeachRows.NONE);
+        alike("behind " + call, x, made.get());
+    }
+
+    /** Two fills that answer alike now and on all days to come; both are used up by it. */
+    void alike(String when, LeachRows x, LeachRows y) {
+        long[] got = Shown.of(x);
+        long[] want = Shown.of(y);
+        same(when + ": how many answers", got.length, want.length);
+        // one difference brings hundreds with it: the first one is enough
+        boolean alike = true;
+        for (int i = 0; i < got.length && i < want.length && alike; i++) {
+            same(when + ": answer " + i + " of all that it shows", got[i], want[i]);
+            alike = got[i] == want[i];
+        }
     }
 
     /** All of out(0) .. out(8), in this order. */
